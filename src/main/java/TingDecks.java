@@ -512,12 +512,14 @@ public final class TingDecks {
     public long likely(int rider, int what) throws NoSuchElementException {
         checkRider(rider);
         checkWhat(what, 1);
-        return reckonedChances().partOf(chances.pays[rider], what);
+        Chances all = reckonedChances();
+        return all.partOf(all.pays[rider], what);
     }
 
     public long mean(int what) throws NoSuchElementException {
         checkWhat(what, 1);
-        return reckonedChances().partOf(chances.takenByWeight, what);
+        Chances all = reckonedChances();
+        return all.partOf(all.takenByWeight, what);
     }
 
     public void image() {
@@ -848,41 +850,46 @@ public final class TingDecks {
 
         void goOn() {
             start = end;
-            while (start < length && isBlank(text[start])) {
+            while (start < length && (text[start] == ' ' || text[start] == '\n')) {
                 start++;
             }
             end = start;
             if (start >= length) {
                 kind = END;
-            } else if (isLetter(text[start])) {
-                readWord();
-            } else if (isDigit(text[start])) {
-                readNumber();
+                return;
+            }
+            int sign = text[start];
+            if (sign >= 'a' && sign <= 'z') {
+                kind = WORD;
+                end = rowEnd('a', 'z');
+            } else if (sign >= '0' && sign <= '9') {
+                kind = NUMBER;
+                end = rowEnd('0', '9');
+                number = numberRead();
             } else {
-                kind = isSign(text[start]) ? text[start] : STRANGE;
+                kind = isSign(sign) ? sign : STRANGE;
                 end = start + 1;
             }
         }
 
-        private void readWord() {
-            kind = WORD;
-            while (end < length && isLetter(text[end])) {
-                end++;
+        /** Where the row of bytes from least to most ends that begins at the start. */
+        private int rowEnd(int least, int most) {
+            int at = start;
+            while (at < length && text[at] >= least && text[at] <= most) {
+                at++;
             }
+            return at;
         }
 
-        private void readNumber() {
-            kind = NUMBER;
-            number = 0;
-            while (end < length && isDigit(text[end])) {
-                if (end - start < DIGITS_MOST) {
-                    number = number * 10 + (text[end] - '0');
-                }
-                end++;
-            }
+        private int numberRead() {
             if (end - start > DIGITS_MOST) {
-                number = NONE;
+                return NONE;
             }
+            int read = 0;
+            for (int i = start; i < end; i++) {
+                read = read * 10 + (text[i] - '0');
+            }
+            return read;
         }
 
         boolean isThe(String word) {
@@ -895,18 +902,6 @@ public final class TingDecks {
                 }
             }
             return true;
-        }
-
-        private static boolean isBlank(int sign) {
-            return sign == ' ' || sign == '\n';
-        }
-
-        private static boolean isLetter(int sign) {
-            return sign >= 'a' && sign <= 'z';
-        }
-
-        private static boolean isDigit(int sign) {
-            return sign >= '0' && sign <= '9';
         }
 
         private static boolean isSign(int sign) {
@@ -1489,7 +1484,7 @@ public final class TingDecks {
             return reckoner.reckonRule(bus, rule + 1);
         }
 
-        /** He goes to the rider and takes the fare, or misses him: the second in which he is free. */
+        /** He goes to the rider and takes the fare, or misses him: the second when he is free. */
         private int askRider(int rider, int place, int second) {
             order[asks] = rider;
             pickedAt[asks] = second;
@@ -1577,12 +1572,13 @@ public final class TingDecks {
         static final int FAR = Integer.MAX_VALUE;
 
         // Made when it is first needed, as many objects never need it.
-        private int[] soonestByLast = new int[0];
+        int[] soonestByLast = new int[0];
+        int riders;
         int mostFares;
         int mostSet;
 
         void reckon(Trip trip) {
-            int riders = Math.min(trip.bus.riders, ORDERED_MOST);
+            riders = Math.min(trip.bus.riders, ORDERED_MOST);
             int sets = 1 << riders;
             if (soonestByLast.length == 0) {
                 soonestByLast = new int[(1 << ORDERED_MOST) * ORDERED_MOST];
@@ -1604,7 +1600,7 @@ public final class TingDecks {
 
         private void goOnFrom(Trip trip, int set, int second, int place) {
             Bus bus = trip.bus;
-            for (int rider = 0; rider < bus.riders; rider++) {
+            for (int rider = 0; rider < riders; rider++) {
                 if ((set >> rider & 1) == 0) {
                     int there = second + bus.secondsBetween(place, trip.seat[rider]);
                     int paid = Math.max(there, trip.at[bus.from[rider]])
@@ -1632,15 +1628,12 @@ public final class TingDecks {
         }
 
         int soonestOf(int set) {
-            if (set == 0) {
+            if (set <= 0 || set >= 1 << riders) {
                 return 0;
             }
             int soonest = FAR;
-            for (int last = 0; last < ORDERED_MOST; last++) {
-                int cell = set * ORDERED_MOST + last;
-                if (cell >= 0 && cell < soonestByLast.length) {
-                    soonest = Math.min(soonest, soonestByLast[cell]);
-                }
+            for (int last = 0; last < riders; last++) {
+                soonest = Math.min(soonest, soonestByLast[set * ORDERED_MOST + last]);
             }
             return soonest == FAR ? NONE : soonest;
         }
@@ -1699,7 +1692,7 @@ public final class TingDecks {
             }
         }
 
-        /** The upper (0) or the lower part (1) of a weight's share of the whole, in lowest terms. */
+        /** The upper (0) or lower part (1) of a weight's share of the whole, in lowest terms. */
         long partOf(long weight, int part) {
             long divisor = whole;
             long rest = weight;
@@ -1709,7 +1702,7 @@ public final class TingDecks {
                 rest = next;
             }
             long upperOrLower = part == 0 ? weight : whole;
-            return divisor == 0 ? upperOrLower : upperOrLower / divisor;
+            return divisor > 1 ? upperOrLower / divisor : upperOrLower;
         }
     }
 }

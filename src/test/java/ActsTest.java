@@ -105,6 +105,31 @@ public final class ActsTest {
         }
         Check.due("the first ones are gone", -1, x::undo);
         Check.due("HOLD", 3, () -> x.stop(0, 1));
+        mixedActs(x);
+    }
+
+    /** Forty acts and more of all kinds, of which each is undone as itself. */
+    private static void mixedActs(TingDecks x) {
+        int[] seats = new int[48];
+        for (int i = 0; i < 48; i++) {
+            seats[i] = x.rider(i % 4, 2) * 10 + x.rider(i % 4, 3);
+            if (i % 3 == 0) {
+                x.hold(i % 4, i);
+            } else if (i % 3 == 1) {
+                x.sit(i % 4, 1, 3 + i % 7);
+            } else {
+                x.obey(i % 2);
+            }
+        }
+        for (int i = 47; i >= 8; i--) {
+            int nth = i;
+            Check.due("undo of all kinds", nth - 8, x::undo);
+            if (i % 3 == 1) {
+                Check.due("SEAT", seats[nth], () -> x.rider(nth % 4, 2) * 10 + x.rider(nth % 4, 3));
+            }
+        }
+        Check.due("HOLD", 6, () -> x.stop(2, 1));
+        Check.due("rule", 1, () -> x.count(3));
     }
 
     private static void images() {

@@ -111,7 +111,7 @@ public final class ChanceTest {
         // One who never comes, nine who may: the ninth of these counts as sure.
         StringBuilder s = new StringBuilder("ride 300;rider 0 1 above 9 maybe 0;");
         for (int i = 0; i < 9; i++) {
-            s.append("rider 0 1 below ").append(i).append(" maybe ").append(i == 0 ? 1 : 5).append(';');
+            s.append("rider 0 1 below ").append(i).append(" maybe ").append(i % 8 == 0 ? 1 : 5).append(';');
         }
         TingDecks x = Check.bus(s.toString());
         Check.due("never", 0, () -> x.likely(0, 0));

@@ -121,6 +121,11 @@ public final class MoneyTest {
         Check.due("bell(0, 0), held", 9, () -> x.bell(0, 0));
         Check.due("bell(0, 1), held, another too: 6 - 6 * 29 / 60", 4, () -> x.bell(0, 1));
         Check.due("it stays held", 60, () -> x.stop(0, 1));
+        TingDecks z = Check.bus("ride 10;rider 0 1 below 0;take 60;late 0;");
+        Check.due("just too short a bell", 50, () -> z.bell(0, 0));
+        TingDecks w = Check.bus("ride 1;rider 0 1 below 1;take 60;late 0;");
+        Check.due("the longest bell", 60, () -> w.bell(0, 0));
+        Check.due("NET then", 2, () -> w.bell(0, 1));
         TingDecks y = Check.bus(SMALL + "late 99;");
         Check.due("too dear a bell", 0, () -> y.bell(0, 0));
         Check.due("too dear a bell", 4, () -> y.bell(0, 1));

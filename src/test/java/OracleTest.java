@@ -4,6 +4,8 @@ import java.util.Random;
 
 /** Runs of calls by a seed, on the class and on the plain telling of the document beside it. */
 public final class OracleTest {
+    private static final int[] FAR = {Integer.MIN_VALUE, Integer.MAX_VALUE, Integer.MIN_VALUE + 1, -2, 32, 33, 64, 1 << 12, 1 << 31};
+
     private final Random random;
     private final Texts texts;
     private TingDecks x;
@@ -77,35 +79,43 @@ public final class OracleTest {
         }
     }
 
+    /** Mostly one below n, now and then one beside, or one far away. */
+    private int any(int n) {
+        if (n > 0 && below(8) != 0) {
+            return below(n);
+        }
+        return below(3) == 0 ? FAR[below(FAR.length)] : below(n + 6) - 3;
+    }
+
     private int stop() {
-        return below(8) == 0 ? below(16) - 2 : below(y.stops());
+        return any(y.stops());
     }
 
     private int rider() {
-        return below(8) == 0 || y.riders() == 0 ? below(16) - 2 : below(y.riders());
+        return any(y.riders());
     }
 
     private int what(int n) {
-        return below(8) == 0 ? below(n + 4) - 2 : below(n);
+        return any(n);
     }
 
     private void oneCall() {
         switch (below(12)) {
             case 0: case 1: {
                 int s = stop();
-                int n = below(6) == 0 ? below(70) - 4 : below(below(3) == 0 ? 61 : 6);
+                int n = below(3) == 0 ? any(61) : below(6);
                 same("hold(" + s + "," + n + ")", () -> x.hold(s, n), () -> y.hold(s, n));
                 break;
             }
             case 2: case 3: case 4: {
                 int r = rider();
-                int d = below(8) == 0 ? below(4) - 1 : below(2);
-                int n = below(8) == 0 ? below(14) - 2 : below(10);
+                int d = any(2);
+                int n = any(10);
                 same("sit(" + r + "," + d + "," + n + ")", () -> x.sit(r, d, n), () -> y.sit(r, d, n));
                 break;
             }
             case 5: case 6: {
-                int r = below(6) - 1;
+                int r = any(6) - 1;
                 same("obey(" + r + ")", () -> x.obey(r) ? 1 : 0, () -> y.obey(r) ? 1 : 0);
                 break;
             }
@@ -114,8 +124,8 @@ public final class OracleTest {
                 break;
             case 8: {
                 int s = stop();
-                int d = below(8) == 0 ? below(4) - 1 : below(2);
-                int n = below(8) == 0 ? below(18) - 2 : below(4);
+                int d = any(2);
+                int n = below(2) == 0 ? any(13) : below(4);
                 same("head(" + s + "," + d + "," + n + ")", () -> x.head(s, d, n), () -> y.head(s, d, n));
                 break;
             }
@@ -153,15 +163,15 @@ public final class OracleTest {
             case 2: n = what(7); same("rider(" + r + "," + n + ")", () -> x.rider(r, n), () -> y.rider(r, n)); break;
             case 3: n = what(3); same("paid(" + r + "," + n + ")", () -> x.paid(r, n), () -> y.paid(r, n)); break;
             case 4: n = rider(); same("way(" + r + "," + n + ")", () -> x.way(r, n), () -> y.way(r, n)); break;
-            case 5: n = below(500) - 2; same("where(" + n + ")", () -> x.where(n), () -> y.where(n)); break;
+            case 5: n = any(300); same("where(" + n + ")", () -> x.where(n), () -> y.where(n)); break;
             case 6: if (y.riders() <= 8) { n = what(2); same("most(" + n + ")", () -> x.most(n), () -> y.most(n)); } break;
-            case 7: n = below(7) - 2; same("compare(" + n + ")", () -> x.compare(n), () -> y.compare(n)); break;
+            case 7: n = any(6) - 1; same("compare(" + n + ")", () -> x.compare(n), () -> y.compare(n)); break;
             case 8: same("best()", x::best, y::best); break;
             case 9: n = what(2); same("bell(" + s + "," + n + ")", () -> x.bell(s, n), () -> y.bell(s, n)); break;
             case 10: n = what(3); same("door(" + n + ")", () -> x.door(n), () -> y.door(n)); break;
             case 11: n = what(2); same("two(" + n + ")", () -> x.two(n), () -> y.two(n)); break;
             case 12: same("flat()", x::flat, y::flat); break;
-            case 13: n = below(16) - 2; same("hops(" + n + ")", () -> x.hops(n), () -> y.hops(n)); break;
+            case 13: n = any(13); same("hops(" + n + ")", () -> x.hops(n), () -> y.hops(n)); break;
             case 14: same("again(" + s + ")", () -> x.again(s), () -> y.again(s)); break;
             case 15: case 16: n = what(3); same("fits(" + n + ")", () -> x.fits(n), () -> y.fits(n)); break;
             case 17: case 18: n = what(2); same("game(" + s + "," + r + "," + n + ")", () -> x.game(s, r, n), () -> y.game(s, r, n)); break;
@@ -180,13 +190,13 @@ public final class OracleTest {
 
     private void week() {
         int seed = random.nextInt();
-        int days = below(8) == 0 ? below(80) - 8 : below(6);
+        int days = below(4) == 0 ? any(61) : below(6);
         int n = what(3);
         same("week(" + seed + "," + days + "," + n + ")", () -> x.week(seed, days, n), () -> y.week(seed, days, n));
     }
 
     private void soonest() {
-        int set = below(8) == 0 ? random.nextInt() : below(1 << y.riders()) & below(1 << y.riders());
+        int set = below(8) == 0 ? any(1 << y.riders()) : below(20) == 0 ? random.nextInt() : below(1 << y.riders()) & below(1 << y.riders());
         same("soonest(" + set + ")", () -> x.soonest(set), () -> y.soonest(set));
     }
 

@@ -142,6 +142,12 @@ public final class RideTest {
         Check.due("0-left: rider 0 first", 0, () -> y.ting(0));
         y.obey(3);
         Check.due("fare: rider 2 first", 2, () -> y.ting(0));
+        TingDecks z = Check.bus("ride 10 50 50;rider 0 3 below 9;rider 1 2 below 2;rider 0 3 below 0;take 10;"
+                + "picks (left=2)*(new=1)*9+(left=3)*seat*0+(left=1)*5;");
+        z.obey(0);
+        // In second 0 all are alike, 0 pays in 19; then rider 2 has 2 STOPS left, rider 1 one.
+        Check.due("left and new: rider 0 first", 0, () -> z.ting(0));
+        Check.due("left and new: then rider 2", 2, () -> z.ting(1));
         y.obey(2);
         Check.due("new: then rider 2", 0, () -> y.ting(0));
         Check.due("new: of like ones the least", 2, () -> y.ting(1));

@@ -116,6 +116,13 @@ public final class TextTest {
         Check.fault("12345;", 1, 0);
         Check.fault("  rid 5;", 1, 2);
         Check.fault("rides 5;", 1, 0);
+        Check.fault("tide 5;", 1, 0);
+        Check.fault("step 5z;", 1, 6);
+        Check.fault("fare z;", 3, 5);
+        Check.fault("fare az;", 3, 5);
+        Check.fault("fare {;", 1, 5);
+        Check.fault("fare `;", 1, 5);
+        Check.fault("fare :;", 1, 5);
         Check.fault("Ride 5;", 1, 0);
         Check.fault("ride\t5;", 1, 4);
         Check.fault("ride 5", 1, 6);
