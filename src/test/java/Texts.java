@@ -169,7 +169,7 @@ final class Texts {
 
     private String repeatLine(String text) {
         String[] lines = text.split(";");
-        String line = lines[below(lines.length)];
+        String line = lines.length == 0 ? "" : lines[below(lines.length)];
         return chance(50) ? text + line + ";" : line + ";" + text;
     }
 }
