@@ -19,7 +19,7 @@ public final class OracleTest {
     }
 
     public static void main(String[] args) {
-        int runs = args.length > 1 ? Integer.parseInt(args[1]) : 250;
+        int runs = args.length > 1 ? Integer.parseInt(args[1]) : 500;
         long first = args.length > 2 ? Long.parseLong(args[2]) : 1;
         for (int i = 0; i < runs && Check.wrongSoFar() == 0; i++) {
             new OracleTest(first + i).spoiltTexts();
@@ -164,7 +164,7 @@ public final class OracleTest {
             case 3: n = what(3); same("paid(" + r + "," + n + ")", () -> x.paid(r, n), () -> y.paid(r, n)); break;
             case 4: n = rider(); same("way(" + r + "," + n + ")", () -> x.way(r, n), () -> y.way(r, n)); break;
             case 5: n = any(300); same("where(" + n + ")", () -> x.where(n), () -> y.where(n)); break;
-            case 6: if (y.riders() <= 8) { n = what(2); same("most(" + n + ")", () -> x.most(n), () -> y.most(n)); } break;
+            case 6: if (isNotTooSlow()) { n = what(2); same("most(" + n + ")", () -> x.most(n), () -> y.most(n)); } break;
             case 7: n = any(6) - 1; same("compare(" + n + ")", () -> x.compare(n), () -> y.compare(n)); break;
             case 8: same("best()", x::best, y::best); break;
             case 9: n = what(2); same("bell(" + s + "," + n + ")", () -> x.bell(s, n), () -> y.bell(s, n)); break;
@@ -178,7 +178,7 @@ public final class OracleTest {
             case 19: week(); break;
             case 20: n = what(6); same("walk(" + n + ")", () -> x.walk(n), () -> y.walk(n)); break;
             case 21: n = what(12); same("ting(" + n + ")", () -> x.ting(n), () -> y.ting(n)); break;
-            case 22: if (y.riders() <= 8) { soonest(); } break;
+            case 22: if (isNotTooSlow()) { soonest(); } break;
             case 23: n = what(2); same("dodge(" + r + "," + n + ")", () -> x.dodge(r, n), () -> y.dodge(r, n)); break;
             case 24: same("worth(" + r + ")", () -> x.worth(r), () -> y.worth(r)); break;
             case 25: same("pace()", x::pace, y::pace); break;
@@ -193,6 +193,11 @@ public final class OracleTest {
         int days = below(4) == 0 ? any(61) : below(6);
         int n = what(3);
         same("week(" + seed + "," + days + "," + n + ")", () -> x.week(seed, days, n), () -> y.week(seed, days, n));
+    }
+
+    /** All orders of nine or ten riders take their time one by one: only now and then. */
+    private boolean isNotTooSlow() {
+        return y.riders() <= 8 || y.riders() > 10 || below(8) == 0;
     }
 
     private void soonest() {

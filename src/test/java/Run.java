@@ -1,5 +1,7 @@
 import java.lang.reflect.InvocationTargetException;
 import java.lang.reflect.Method;
+import java.util.ArrayList;
+import java.util.List;
 
 /**
  * A run of calls on a new object for one sentence of the document: each call is written as
@@ -36,6 +38,15 @@ final class Run {
         return this;
     }
 
+    /** Lines of riders from stop 0 to 1, six below on the seats 0 to 5, then above, each with what comes behind. */
+    static String riders(int n, String behind) {
+        StringBuilder s = new StringBuilder();
+        for (int i = 0; i < n; i++) {
+            s.append("rider 0 1 ").append(i < 6 ? "below " : "above ").append(i % 6).append(behind).append(';');
+        }
+        return s.toString();
+    }
+
     Run feeds(String text) {
         Check.feed(x, text);
         return this;
@@ -69,6 +80,47 @@ final class Run {
             answer(call);
         }
         return this;
+    }
+
+    /** The same answers as another object gives, none of them thrown by the machine. */
+    Run sameAs(Run twin, String... calls) {
+        for (String call : calls) {
+            long due = Check.of(() -> twin.answer(call));
+            Check.same(told(call + " thrown by the machine"), due == Check.OTHER ? 1 : 0, 0);
+            is(due, call);
+        }
+        return this;
+    }
+
+    /** Every question about a bus of so many stops and riders, and some beside. */
+    static String[] questions(int stops, int riders) {
+        List<String> calls = new ArrayList<>(List.of("fault", "best", "flat", "pace"));
+        rows(calls, "count", 14, "walk", 6, "door", 3, "two", 2, "most", 2, "fits", 3, "mean", 2, "ting", riders + 1,
+                "hops", 14);
+        rows(calls, "week 77 9", 3, "week -5 60", 3, "where", 40, "soonest", 40, "again", stops + 1);
+        for (int rule = -2; rule <= 4; rule++) {
+            calls.add("compare " + rule);
+        }
+        for (int stop = 0; stop <= stops; stop++) {
+            rows(calls, "stop " + stop, 4, "bell " + stop, 2);
+            for (int rider = 0; rider <= riders; rider++) {
+                rows(calls, "game " + stop + " " + rider, 2);
+            }
+        }
+        for (int rider = 0; rider <= riders; rider++) {
+            rows(calls, "rider " + rider, 7, "paid " + rider, 3, "way " + rider, riders + 1, "dodge " + rider, 2,
+                    "likely " + rider, 2);
+            calls.add("worth " + rider);
+        }
+        return calls.toArray(new String[0]);
+    }
+
+    private static void rows(List<String> calls, Object... callsAndLengths) {
+        for (int i = 0; i < callsAndLengths.length; i += 2) {
+            for (int n = 0; n < (Integer) callsAndLengths[i + 1]; n++) {
+                calls.add(callsAndLengths[i] + " " + n);
+            }
+        }
     }
 
     private String told(String call) {

@@ -1,7 +1,7 @@
 /** The sentences with a boundary in the Terms ahead of "==== 2." and in the promises 1 to 4. */
 public final class TextEdgesTest {
-    private static final String RIDERS_11 = riders(11);
-    private static final String RIDERS_12 = riders(12);
+    private static final String RIDERS_11 = Run.riders(11, "");
+    private static final String RIDERS_12 = Run.riders(12, "");
 
     public static void main(String[] args) {
         numbers();
@@ -13,16 +13,9 @@ public final class TextEdgesTest {
         newObject();
         feed();
         bus();
+        allAnew();
         fault();
         Check.end("TextEdgesTest");
-    }
-
-    private static String riders(int n) {
-        StringBuilder s = new StringBuilder();
-        for (int i = 0; i < n; i++) {
-            s.append("rider 0 1 ").append(i < 10 ? "below " : "above ").append(i % 10).append(';');
-        }
-        return s.toString();
     }
 
     private static String times(String what, int n) {
@@ -99,7 +92,8 @@ public final class TextEdgesTest {
         String s = "NUMBERS (1 to 4 digits)";
         Run.of(s, "step 0009;").is(9, "count 4");
         Run.of(s).refuses(2, "step ^00009;").refuses(2, "step ^99999999999999999999;");
-        Run.of(s).refuses(2, "ride ^00001;").refuses(2, "rider ^00000 1 below 0;").refuses(2, "rider 0 ^00001 below 0;");
+        Run.of(s).refuses(2, "ride ^00001;").refuses(2, "rider ^00000 1 below 0;")
+                .refuses(2, "rider 0 ^00001 below 0;");
         Run.of(s).refuses(2, "rider 0 1 below ^00000;").refuses(2, "rider 0 1 below 0 maybe ^00001;");
         Run.of(s, "rider 0000 0001 below 0009 maybe 0010;").is(9, "rider 0 3").is(10, "rider 0 5");
         Run.of(s, "rider 0 1 below 0;fare 0099;").is(99, "rider 0 6");
@@ -122,7 +116,7 @@ public final class TextEdgesTest {
     private static void ridersAreTwelveAtMost() {
         String s = "RIDERS 0, 1 .. (at most 12)";
         Run.of(s, "").is(0, "count 1").noSuch("rider 0 0");
-        Run.of(s, RIDERS_12).is(12, "count 1").is(1, "rider 11 2", "rider 11 3").noSuch("rider 12 0");
+        Run.of(s, RIDERS_12).is(12, "count 1").is(1, "rider 11 2").is(5, "rider 11 3").noSuch("rider 12 0");
         Run.of(s).refuses(2, RIDERS_12 + "^rider 0 1 above 5;");
         Run.of(s).refuses(2, RIDERS_12 + "^rider");
         Run.of(s).refuses(2, RIDERS_12 + "step 1;^rider;");
@@ -155,9 +149,12 @@ public final class TextEdgesTest {
     private static void decksAndSeats() {
         String s = "a DECK (0 below, 1 above), a SEAT (0 to 9)";
         Run.of(s, "rider 0 1 below 0;rider 0 1 above 9;rider 0 1 below 9;rider 0 1 above 0;")
-                .row("rider 0", 0, 1, 0, 0).row("rider 1", 0, 1, 1, 9).row("rider 2", 0, 1, 0, 9).row("rider 3", 0, 1, 1, 0);
-        Run.of(s).refuses(2, "rider 0 1 below ^10;").refuses(2, "rider 0 1 above ^10;").refuses(2, "rider 0 1 above ^9999;");
-        Run.of(s).refuses(1, "rider 0 1 ^0 0;").refuses(1, "rider 0 1 ^beneath 0;").refuses(1, "rider 0 1 below ^above 0;");
+                .row("rider 0", 0, 1, 0, 0).row("rider 1", 0, 1, 1, 9).row("rider 2", 0, 1, 0, 9)
+                .row("rider 3", 0, 1, 1, 0);
+        Run.of(s).refuses(2, "rider 0 1 below ^10;").refuses(2, "rider 0 1 above ^10;")
+                .refuses(2, "rider 0 1 above ^9999;");
+        Run.of(s).refuses(1, "rider 0 1 ^0 0;").refuses(1, "rider 0 1 ^beneath 0;")
+                .refuses(1, "rider 0 1 below ^above 0;");
         Run.of(s).refuses(1, "rider 0 1 below^;").refuses(1, "rider 0 1 below ^note;");
     }
 
@@ -195,6 +192,7 @@ public final class TextEdgesTest {
         everyByteBehindANumber();
         everyByteWhereAPartMustStand();
         wordsAreTheLongestRow();
+        everyLetterCounts();
         blanksCountForNothing();
     }
 
@@ -235,10 +233,44 @@ public final class TextEdgesTest {
     private static void wordsAreTheLongestRow() {
         String s = "words (a .. z, the longest row)";
         Run.of(s).refuses(1, "^steps 5;").refuses(1, "^ste p 5;").refuses(1, "^stepfade 5;").refuses(1, "^s;");
-        Run.of(s).refuses(3, "fare ^hopsdeck;").refuses(3, "fare ^hop;").refuses(3, "fare ^nothops;").refuses(1, "fare hops ^deck;");
+        Run.of(s).refuses(3, "fare ^hopsdeck;").refuses(3, "fare ^hop;").refuses(3, "fare ^nothops;")
+                .refuses(1, "fare hops ^deck;");
         Run.of(s).refuses(1, "rider 0 1 ^belowabove 0;").refuses(1, "rider 0 1 below 0 ^notemaybe 5;");
         Run.of(s).refuses(1, "^Step 5;").refuses(1, "^sTep 5;");
-        Run.of(s, "rider0 1below0note maybe3;step5;fare2*hops;").is(1, "rider 0 4").is(3, "rider 0 5").is(5, "count 4").is(2, "rider 0 6");
+        Run.of(s, "rider0 1below0note maybe3;step5;fare2*hops;").is(1, "rider 0 4").is(3, "rider 0 5").is(5, "count 4")
+                .is(2, "rider 0 6");
+    }
+
+    private static void everyLetterCounts() {
+        String s = "In quotes is what stands there";
+        for (String word : new String[] {"ride", "step", "stair", "take", "late", "fade"}) {
+            everyLetterOf(s, 1, "", word, " 5;");
+        }
+        everyLetterOf(s, 1, "", "rider", " 0 1 below 0;");
+        everyLetterOf(s, 1, "rider 0 1 ", "below", " 0;");
+        everyLetterOf(s, 1, "rider 0 1 ", "above", " 0;");
+        everyLetterOf(s, 1, "rider 0 1 below 0 ", "note", ";");
+        everyLetterOf(s, 1, "rider 0 1 below 0 ", "maybe", " 5;");
+        everyLetterOf(s, 1, "", "fare", " 1;");
+        everyLetterOf(s, 1, "", "picks", " 1;");
+        everyLetterOf(s, 1, "fare 1 ", "and", " 1;");
+        everyLetterOf(s, 1, "fare 1 ", "or", " 1;");
+        everyLetterOf(s, 3, "fare ", "not", " 1;");
+        for (String value : new String[] {"hops", "deck", "seat", "note"}) {
+            everyLetterOf(s, 3, "fare ", value, ";");
+        }
+        for (String value : new String[] {"hops", "deck", "seat", "note", "near", "left", "new", "fare"}) {
+            everyLetterOf(s, 3, "picks ", value, ";");
+        }
+    }
+
+    private static void everyLetterOf(String s, int fault, String ahead, String word, String behind) {
+        for (int i = 0; i < word.length(); i++) {
+            String other = word.charAt(i) == 'x' ? "z" : "x";
+            Run.of(s).refuses(fault, ahead + "^" + word.substring(0, i) + other + word.substring(i + 1) + behind);
+            Run.of(s).refuses(fault, ahead + "^" + word.substring(0, i) + other + word.substring(i) + behind);
+        }
+        Run.of(s).refuses(fault, ahead + "^" + word + "x" + behind).reads(ahead + word + behind);
     }
 
     private static void blanksCountForNothing() {
@@ -279,7 +311,8 @@ public final class TextEdgesTest {
         String s = "LINE: (..) ';'";
         Run.of(s).refuses(1, "^;").refuses(1, "step 1;^;").refuses(1, "step 1 ^late 1;").refuses(1, "ride 1 ^ride 1;");
         Run.of(s).refuses(1, "fare 1 ^picks 1;").refuses(1, "rider 0 1 below 0 ^rider 0 1 below 1;").refuses(1, "^1;");
-        Run.of(s).refuses(1, "step 1;^below;").refuses(1, "^note;").refuses(1, "^maybe 1;").refuses(1, "^not 1;").refuses(1, "^hops;");
+        Run.of(s).refuses(1, "step 1;^below;").refuses(1, "^note;").refuses(1, "^maybe 1;").refuses(1, "^not 1;")
+                .refuses(1, "^hops;");
         Run.of(s, "step 1;step".substring(0, 7)).is(1, "count 4");
     }
 
@@ -393,16 +426,22 @@ public final class TextEdgesTest {
         gives(s, 1, "deck");
         gives(s, 7, "seat");
         gives(s, 1, "note");
-        Run.of(s, "rider 0 1 below 0;fare hops*1+deck*10+seat*20+note*40;").is(1, "rider 0 6").call("sit 0 1 2").is(51, "rider 0 6");
+        Run.of(s, "rider 0 1 below 0;fare hops*1+deck*10+seat*20+note*40;").is(1, "rider 0 6").call("sit 0 1 2")
+                .is(51, "rider 0 6");
         String t = "3 any word where a PART must stand that is no VALUE of this EXPR";
-        Run.of(t).refuses(3, "fare ^near;").refuses(3, "fare ^left;").refuses(3, "fare ^new;").refuses(3, "fare ^fare;");
-        Run.of(t).refuses(3, "fare 1+^near;").refuses(3, "fare (^left);").refuses(3, "fare not ^new;").refuses(3, "fare 1<^fare;");
+        Run.of(t).refuses(3, "fare ^near;").refuses(3, "fare ^left;").refuses(3, "fare ^new;")
+                .refuses(3, "fare ^fare;");
+        Run.of(t).refuses(3, "fare 1+^near;").refuses(3, "fare (^left);").refuses(3, "fare not ^new;")
+                .refuses(3, "fare 1<^fare;");
         Run.of(t).refuses(3, "fare 1 and ^near;").refuses(3, "fare 1 or ^near;").refuses(3, "fare 2*^near;");
-        Run.of(t).refuses(3, "picks ^ride;").refuses(3, "picks ^below;").refuses(3, "picks ^picks;").refuses(3, "picks ^hop;");
-        Run.of(t).refuses(3, "picks ^and;").refuses(3, "picks ^or;").refuses(3, "picks 1 or ^or;").refuses(3, "picks 1+^not 1;");
+        Run.of(t).refuses(3, "picks ^ride;").refuses(3, "picks ^below;").refuses(3, "picks ^picks;")
+                .refuses(3, "picks ^hop;");
+        Run.of(t).refuses(3, "picks ^and;").refuses(3, "picks ^or;").refuses(3, "picks 1 or ^or;")
+                .refuses(3, "picks 1+^not 1;");
         Run.of(t).refuses(3, "picks 2*^not 1;").refuses(3, "picks 1=^not 1;").refuses(3, "picks (^maybe");
         // No PART must stand behind a PART: there a word can't stand.
-        Run.of(t).refuses(1, "picks 1 ^near;").refuses(1, "picks near ^goose;").refuses(1, "picks (1) ^not 1;").refuses(1, "fare 1 ^fare;");
+        Run.of(t).refuses(1, "picks 1 ^near;").refuses(1, "picks near ^goose;").refuses(1, "picks (1) ^not 1;")
+                .refuses(1, "fare 1 ^fare;");
         Run.of(t, "picks near+left+new+fare+hops+deck+seat+note;fare hops+deck+seat+note;").is(1, "count 2");
     }
 
@@ -437,7 +476,8 @@ public final class TextEdgesTest {
         String s = "FAULTS, the first along the text, at a TOKEN's first byte";
         Run.of(s).refuses(2, "step ^10;goose;").refuses(1, "^goose;step 10;").refuses(2, "step ^10 ?;");
         Run.of(s).refuses(3, "fare ^goose+12345;").refuses(2, "fare ^12345+goose;").refuses(2, "ride ^0 0;");
-        Run.of(s).refuses(5, "step 1;^step 10;").refuses(2, "step ^10;step 1;").refuses(6, "rider 0 1 below 0;^ride 0;");
+        Run.of(s).refuses(5, "step 1;^step 10;").refuses(2, "step ^10;step 1;")
+                .refuses(6, "rider 0 1 below 0;^ride 0;");
         Run.of(s).refuses(4, "rider 0 1 below 0;rider 0 1 below ^0 maybe 11;").refuses(2, "rider ^2 0 below 10;");
         Run.of(s).refuses(1, "   ^goose;").refuses(1, "step   ^goose;").refuses(2, "step   ^0010;");
     }
@@ -459,7 +499,8 @@ public final class TextEdgesTest {
             Run.of(s).refuses(2, word + "((((((^1))))));").refuses(2, word + "((((((^hops))))));");
             Run.of(s).refuses(2, word + "((((((^goose))))));").refuses(2, word + "((((((^not 1))))));");
             Run.of(s).refuses(2, word + "((((((^(1)))))));").refuses(2, word + "((((((^or");
-            Run.of(s).refuses(2, word + "1+((((2*((^1))))));").refuses(2, word + "not (not (not (not (not (not (^1))))));");
+            Run.of(s).refuses(2, word + "1+((((2*((^1))))));")
+                    .refuses(2, word + "not (not (not (not (not (not (^1))))));");
             Run.of(s).refuses(1, word + "((((((^)").refuses(1, word + "((((((^;").refuses(1, word + "((((((^+1");
             Run.of(s).refuses(1, word + "((((((^?").refuses(1, word + "((((((^");
             Run.of(s, word + "(((((1)))))+(((((2)))))*(((((3)))));").is(-1, "fault");
@@ -474,8 +515,10 @@ public final class TextEdgesTest {
         Run.of(s).refuses(3, "fare " + times("not ", 6) + "^goose;").refuses(1, "fare " + times("not ", 6) + "^;");
         Run.of(s).refuses(3, "fare " + times("not ", 6) + "^nots 1;");
         Run.of(s, "fare " + times("not ", 6) + "(" + times("not ", 6) + "1);").is(-1, "fault");
-        Run.of(s, "fare " + times("not ", 6) + "1 or " + times("not ", 6) + "1 and " + times("not ", 6) + "1;").is(-1, "fault");
-        Run.of(s).refuses(2, "fare 1 and " + times("not ", 6) + "^not 1;").refuses(2, "fare (" + times("not\n", 6) + "^not 1);");
+        Run.of(s, "fare " + times("not ", 6) + "1 or " + times("not ", 6) + "1 and " + times("not ", 6) + "1;")
+                .is(-1, "fault");
+        Run.of(s).refuses(2, "fare 1 and " + times("not ", 6) + "^not 1;")
+                .refuses(2, "fare (" + times("not\n", 6) + "^not 1);");
     }
 
     private static void aSecondWord() {
@@ -485,7 +528,8 @@ public final class TextEdgesTest {
             // In a text ahead of it that has a FAULT, or in another bus, it doesn't count.
             Run.of(s).refuses(1, word + " 1^").reads(word + " 1;").reads(word + " 1;").is(-1, "fault");
         }
-        Run.of(s, "ride 1;step 1;stair 1;take 1;late 1;fade 1;fare 1;picks 1;picks 1;rider 0 1 below 0;").is(1, "count 1");
+        Run.of(s, "ride 1;step 1;stair 1;take 1;late 1;fade 1;fare 1;picks 1;picks 1;rider 0 1 below 0;")
+                .is(1, "count 1");
     }
 
     private static void rideBehindARider() {
@@ -495,17 +539,23 @@ public final class TextEdgesTest {
         Run.of(s).refuses(5, "ride 1;^ride 1;rider 0 1 below 0;");
         Run.of(s, "step 1;picks 1;fare 1;ride 7;rider 0 1 below 0;").is(7, "stop 1 0");
         // A RIDER of the bus ahead, or of a text with a FAULT, doesn't count.
-        Run.of(s, "rider 0 1 below 0;").refuses(1, "rider 0 1 below 0;^;").reads("ride 7;").is(7, "stop 1 0").is(0, "count 1");
+        Run.of(s, "rider 0 1 below 0;").refuses(1, "rider 0 1 below 0;^;").reads("ride 7;").is(7, "stop 1 0")
+                .is(0, "count 1");
     }
 
     // ------------------------------------------------------------------ promises 1 to 4
 
     private static void newObject() {
-        Run.of("Two STOPS, no RIDERS").is(2, "count 0").is(0, "count 1", "count 2").is(-1, "count 3", "fault", "undo", "best")
-                .is(0, "restore", "count 9", "count 10", "count 11", "count 12", "count 13", "count 14", "count 15", "count 16", "count 17")
-                .is(0, "most 0", "most 1", "soonest 0", "two 0", "two 1", "flat", "again 0", "again 1", "door 0", "door 1", "bell 0 0", "bell 1 1")
-                .is(99, "door 2").is(60, "pace", "walk 1", "stop 1 0").is(1, "fits 0", "mean 1").is(0, "fits 1", "fits 2", "mean 0")
-                .noSuch("rider 0 0", "paid 0 0", "way 0 0", "ting 0", "dodge 0 0", "worth 0", "likely 0 0", "sit 0 0 0", "game 0 0 0")
+        Run.of("Two STOPS, no RIDERS").is(2, "count 0").is(0, "count 1", "count 2")
+                .is(-1, "count 3", "fault", "undo", "best")
+                .is(0, "restore", "count 9", "count 10", "count 11", "count 12", "count 13", "count 14", "count 15",
+                "count 16", "count 17")
+                .is(0, "most 0", "most 1", "soonest 0", "two 0", "two 1", "flat", "again 0", "again 1", "door 0",
+                "door 1", "bell 0 0", "bell 1 1")
+                .is(99, "door 2").is(60, "pace", "walk 1", "stop 1 0").is(1, "fits 0", "mean 1")
+                .is(0, "fits 1", "fits 2", "mean 0")
+                .noSuch("rider 0 0", "paid 0 0", "way 0 0", "ting 0", "dodge 0 0", "worth 0", "likely 0 0", "sit 0 0 0",
+                "game 0 0 0")
                 .illegal("soonest 1", "bus 1", "bus -1", "where 61", "where -1");
     }
 
@@ -514,7 +564,8 @@ public final class TextEdgesTest {
         Run full = Run.of(s).feeds("step 7;" + times(" ", 680 - 7)).is(680, "count 14");
         full.is(700, "feed 0 0 0 0 0").is(-1, "feed 1 1 1 1 1", "feed 0 0 0 0 0").is(700, "count 14");
         full.illegal("bus 701").is(0, "bus 680").is(7, "count 4").is(0, "count 14").is(20, "feed 0 0 0 0 0");
-        Run.of("STATUS doesn't count it").feeds(times(" ", 700)).is(-1, "feed 1 1 1 1 1").is(0, "count 15", "count 16", "count 17");
+        Run.of("STATUS doesn't count it").feeds(times(" ", 700)).is(-1, "feed 1 1 1 1 1")
+                .is(0, "count 15", "count 16", "count 17");
         String t = "Twenty bytes come behind the tape, of each number the highest first: how many it has";
         // "ride" "r 0 " "1 be" "low " "3;  "
         Run.of(t).is(20, "feed 1919509605 1914712096 824205925 1819244320 859512864").is(40, "feed 0 0 0 0 0")
@@ -522,7 +573,8 @@ public final class TextEdgesTest {
         // Bytes above 127, in each place of a number.
         for (int shift = 0; shift < 32; shift += 8) {
             int number = 0x20202020 & ~(255 << shift) | 200 << shift;
-            Run.of(t).is(20, "feed 538976288 " + number + " 538976288 -1 -2147483648").is(1, "bus 20").is(4 + (24 - shift) / 8, "fault");
+            Run.of(t).is(20, "feed 538976288 " + number + " 538976288 -1 -2147483648").is(1, "bus 20")
+                    .is(4 + (24 - shift) / 8, "fault");
         }
         // What comes behind a BUS begins anew.
         Run.of(t).feeds("step 3;").is(0, "bus 7").feeds("step 4;").is(20, "count 14").is(0, "bus 7").is(4, "count 4");
@@ -530,14 +582,17 @@ public final class TextEdgesTest {
 
     private static void bus() {
         String s = "The tape's first n bytes (it is empty then)";
-        Run.of(s).feeds("step 3;late 7;").is(0, "bus 7").is(3, "count 4").is(6, "count 7").is(0, "count 14").illegal("bus 1");
+        Run.of(s).feeds("step 3;late 7;").is(0, "bus 7").is(3, "count 4").is(6, "count 7").is(0, "count 14")
+                .illegal("bus 1");
         Run.of(s).feeds("step 3;late 7;").is(1, "bus 13").is(0, "count 14").illegal("bus 1").is(13, "fault");
         Run.of(s).feeds("step 3;goose").is(0, "bus 7").is(0, "count 14");
         Run.of(s).feeds("step 3;").is(0, "bus 0").is(1, "count 4").is(0, "count 14", "bus 0");
         Run.of(s).feeds("step 3;").is(0, "bus 20").is(3, "count 4");
         String t = "IllegalArgumentException: the tape has not so many, n below 0 (nothing changes)";
-        Run.of(t).refuses(1, "^goose").feeds("step 3;").call("hold 0 5").illegal("bus 21", "bus -1", "bus 2147483647", "bus -2147483648")
-                .is(20, "count 14").is(1, "count 15", "count 4").is(0, "fault").is(5, "stop 0 1").is(1, "count 12").is(0, "bus 20");
+        Run.of(t).refuses(1, "^goose").feeds("step 3;").call("hold 0 5")
+                .illegal("bus 21", "bus -1", "bus 2147483647", "bus -2147483648")
+                .is(20, "count 14").is(1, "count 15", "count 4").is(0, "fault").is(5, "stop 0 1").is(1, "count 12")
+                .is(0, "bus 20");
         all();
     }
 
@@ -546,22 +601,69 @@ public final class TextEdgesTest {
         String s = "or the FAULT (all stays)";
         Run stays = Run.of(s, text).call("hold 1 5", "sit 0 0 6", "obey 0", "head 1 0 1", "image", "hold 1 6");
         stays.refuses(1, "ride 1;rider 0 1 below 0;picks 1;step 1;stair 1;take 1;late 1;fade 1;fare 1;^?");
-        stays.is(4, "count 0").is(1, "count 1", "count 2").is(0, "count 3").is(2, "count 4").is(3, "count 5").is(4, "count 6")
-                .is(9, "count 7").is(8, "count 8").is(4, "count 12").is(1, "count 13", "count 15").row("rider 0", 1, 3, 0, 6, 1, 3, 7);
-        stays.is(6, "stop 1 1").is(5, "stop 1 0").is(17, "stop 2 0").is(1, "restore").is(5, "stop 1 1").is(3, "count 12");
+        stays.is(4, "count 0").is(1, "count 1", "count 2").is(0, "count 3").is(2, "count 4").is(3, "count 5")
+                .is(4, "count 6")
+                .is(9, "count 7").is(8, "count 8").is(4, "count 12").is(1, "count 13", "count 15")
+                .row("rider 0", 1, 3, 0, 6, 1, 3, 7);
+        stays.is(6, "stop 1 1").is(5, "stop 1 0").is(17, "stop 2 0").is(1, "restore").is(5, "stop 1 1")
+                .is(3, "count 12");
         String t = "ACTS, what is COUNTED, the image are gone (STATUS stays)";
-        Run gone = Run.of(t, text).call("hold 1 5", "sit 0 0 6", "obey 0", "head 1 0 1", "image", "hold 1 61", "hold 1 -1",
+        Run gone = Run.of(t, text)
+                .call("hold 1 5", "sit 0 0 6", "obey 0", "head 1 0 1", "image", "hold 1 61", "hold 1 -1",
                 "head 0 2 0", "head 0 3 0", "head 0 0 13").refuses(1, "^?");
-        gone.reads("ride 5 6 7;rider 1 3 above 4;picks 1;").is(0, "stop 1 1", "count 12", "count 13", "restore").is(-1, "undo", "count 3")
-                .is(1, "count 15", "rider 0 2").is(2, "count 16").is(3, "count 17").is(4, "rider 0 3").is(4, "rider 0 6").is(-1, "fault");
-        gone.is(0, "bus 0").is(1, "count 15").is(2, "count 16").is(3, "count 17").is(2, "count 0").is(0, "count 1", "count 2");
+        gone.reads("ride 5 6 7;rider 1 3 above 4;picks 1;").is(0, "stop 1 1", "count 12", "count 13", "restore")
+                .is(-1, "undo", "count 3")
+                .is(1, "count 15", "rider 0 2").is(2, "count 16").is(3, "count 17").is(4, "rider 0 3")
+                .is(4, "rider 0 6").is(-1, "fault");
+        gone.is(0, "bus 0").is(1, "count 15").is(2, "count 16").is(3, "count 17").is(2, "count 0")
+                .is(0, "count 1", "count 2");
+    }
+
+    private static void allAnew() {
+        String s = "are a BUS, all anew";
+        String full = "ride 9 8 7 6 5 4 3 2 1 2 3;step 2;stair 3;take 2;late 30;fade 40;fare hops*9-seat*4;"
+                + "picks near*left-fare+new;picks seat<5 or deck and not note;picks not not 7;picks 0-left;";
+        StringBuilder riders = new StringBuilder();
+        for (int i = 0; i < 12; i++) {
+            riders.append("rider ").append(i % 3).append(i < 3 ? " 5" : " 11").append(i < 6 ? " below " : " above ")
+                    .append(i % 6 + i % 3)
+                    .append(i % 4 == 0 ? " note" : "").append(i % 5 == 0 ? " maybe 5" : "").append(';');
+        }
+        String[] texts = {"", "ride 30 30;rider 0 2 below 2;rider 1 2 below 1 maybe 0;",
+                "rider 0 1 below 0;fare 1;picks 1;",
+            "rider 0 1 above 9;rider 0 1 above 3 note;rider 0 1 below 3 maybe 0;fare hops;picks near;late 60;",
+                    "ride 5 5 5 5;picks not 1;fare not 1;"};
+        for (String text : texts) {
+            Run run = Run.of(s);
+            for (int i = 0; i < 4; i++) {
+                // The full one again and again: whatever is kept inside, it has been there.
+                run.reads(full + riders).sameAs(Run.of(s, full + riders), Run.questions(12, 12));
+                run.call("hold 0 60", "hold 11 60", "sit 0 1 9", "obey 3", "head 0 0 3", "image", "obey 1");
+            }
+            Run twin = Run.of(s, text);
+            run.reads(text).sameAs(twin, Run.questions(5, 3)).is(0, "count 15", "count 16", "count 17", "restore")
+                    .is(-1, "undo");
+            run.call("hold 0 9", "obey 0").sameAs(twin.call("hold 0 9", "obey 0"), Run.questions(5, 3));
+        }
+        // What a rule had behind its end is no part of the next one.
+        String one = "rider 0 1 below 0;fare ";
+        Run.of(s, one + "not 1;").reads(one + "not 1;").is(0, "rider 0 6").reads(one + "1;").is(1, "rider 0 6")
+                .reads(one + "2;").is(2, "rider 0 6");
+        // Long rules again and again.
+        Run again = Run.of(s);
+        for (int i = 0; i < 9; i++) {
+            again.reads("rider 0 1 below 0;picks 1" + times("*1", 280) + ";fare 1" + times("+1", 45) + ";")
+                    .is(46, "rider 0 6");
+        }
     }
 
     private static void fault() {
         String s = "The place of the latest bus()'s FAULT; NONE without";
         Run.of(s).is(-1, "fault").refuses(1, "^;").is(0, "fault").refuses(1, "step ^;").is(5, "fault")
-                .illegal("bus 1").is(5, "fault").reads("step 1;").is(-1, "fault").refuses(2, "step ^10;").is(5, "fault").is(0, "bus 0").is(-1, "fault");
-        Run.of("STATUS: 0 of TEXTS with a FAULT").refuses(1, "^;").refuses(2, "step ^10;").reads("").refuses(3, "fare ^x;")
+                .illegal("bus 1").is(5, "fault").reads("step 1;").is(-1, "fault").refuses(2, "step ^10;").is(5, "fault")
+                .is(0, "bus 0").is(-1, "fault");
+        Run.of("STATUS: 0 of TEXTS with a FAULT").refuses(1, "^;").refuses(2, "step ^10;").reads("")
+                .refuses(3, "fare ^x;")
                 .illegal("bus 21").is(3, "count 15").is(0, "count 16", "count 17");
     }
 }

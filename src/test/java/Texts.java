@@ -36,10 +36,12 @@ final class Texts {
 
     private String tryGood(int riders) {
         int stops = 2;
+        // Few seconds for all: then he often comes just in time, or in a stop's very second.
+        boolean tight = chance(30);
         StringBuilder head = new StringBuilder();
         if (chance(90)) {
             int rides = 1 + below(11);
-            int most = chance(15) ? 300 : chance(50) ? 20 : 60;
+            int most = tight ? 8 : chance(15) ? 300 : chance(50) ? 20 : 60;
             stops = rides + 1;
             head.append("ride");
             for (int i = 0; i < rides; i++) {
@@ -54,13 +56,13 @@ final class Texts {
             riderLine(lines, sat, stops, crowded);
         }
         if (chance(50)) {
-            lines.add("step " + below(10));
+            lines.add("step " + below(tight ? 2 : 10));
         }
-        if (chance(50)) {
-            lines.add("stair " + (chance(50) ? below(20) : below(100)));
+        if (tight || chance(50)) {
+            lines.add("stair " + (tight ? below(4) : chance(50) ? below(20) : below(100)));
         }
-        if (chance(50)) {
-            lines.add("take " + (1 + (chance(80) ? below(10) : below(60))));
+        if (tight || chance(50)) {
+            lines.add("take " + (1 + (tight ? below(3) : chance(80) ? below(10) : below(60))));
         }
         if (chance(50)) {
             lines.add("late " + below(100));
