@@ -57,6 +57,8 @@ public final class WalkEdgesTest {
         Run.of("of the ride as it is now", FOUR).row("walk", 2, 85, 35, 30, 87, 1).call("hold 0 5")
                 .row("walk", 2, 90, 35, 30, 92, 1)
                 .call("obey 1").is(30, "walk 3").call("undo", "undo").row("walk", 2, 85, 35, 30, 87, 1);
+        // A GO that would end behind the last STOP counts whole: only of waiting the document tells that end.
+        Run.of(s, "ride 5;rider 0 1 below 9;").row("walk", 0, 0, 9, 0, 0, 0);
         // He comes to the one in the last STOP's second, just so.
         Run.of(s, "ride 9;rider 0 1 below 9;").row("walk", 0, 0, 9, 0, 0, 0);
     }
