@@ -15,14 +15,20 @@ import java.util.regex.Pattern;
 
 /** The face as the document has it, and those rules of LANGUAGE.md that can be seen in the text. */
 public final class LanguageTest {
+    private static final String NO_SUCH = " NoSuchElementException";
+    private static final String ILLEGAL = " IllegalArgumentException";
     private static final String[] FACE = {
-        "int feed(int,int,int,int,int)", "int bus(int)", "int fault()", "int count(int)", "int stop(int,int)",
-        "int rider(int,int)", "int paid(int,int)", "int way(int,int)", "int where(int)", "int hold(int,int)",
-        "int sit(int,int,int)", "boolean obey(int)", "int undo()", "int most(int)", "int compare(int)", "int best()",
-        "int bell(int,int)", "int door(int)", "int two(int)", "int flat()", "int hops(int)", "int again(int)",
-        "int head(int,int,int)", "void forget()", "int fits(int)", "int game(int,int,int)", "int week(int,int,int)",
-        "int walk(int)", "int ting(int)", "int soonest(int)", "int dodge(int,int)", "int worth(int)", "int pace()",
-        "long likely(int,int)", "long mean(int)", "void image()", "boolean restore()"};
+        "int feed(int,int,int,int,int)", "int bus(int)" + ILLEGAL, "int fault()", "int count(int)" + NO_SUCH,
+        "int stop(int,int)" + NO_SUCH, "int rider(int,int)" + NO_SUCH, "int paid(int,int)" + NO_SUCH,
+        "int way(int,int)" + NO_SUCH, "int where(int)" + ILLEGAL, "int hold(int,int)" + NO_SUCH,
+        "int sit(int,int,int)" + NO_SUCH, "boolean obey(int)", "int undo()", "int most(int)" + NO_SUCH,
+        "int compare(int)" + NO_SUCH, "int best()", "int bell(int,int)" + NO_SUCH, "int door(int)" + NO_SUCH,
+        "int two(int)" + NO_SUCH, "int flat()", "int hops(int)" + ILLEGAL, "int again(int)" + NO_SUCH,
+        "int head(int,int,int)" + NO_SUCH, "void forget()", "int fits(int)" + NO_SUCH,
+        "int game(int,int,int)" + NO_SUCH + ILLEGAL, "int week(int,int,int)" + NO_SUCH + ILLEGAL,
+        "int walk(int)" + NO_SUCH, "int ting(int)" + NO_SUCH, "int soonest(int)" + ILLEGAL,
+        "int dodge(int,int)" + NO_SUCH, "int worth(int)" + NO_SUCH, "int pace()", "long likely(int,int)" + NO_SUCH,
+        "long mean(int)" + NO_SUCH, "void image()", "boolean restore()"};
     private static final String[] FORBIDDEN = {
         "->", "::", "\\btry\\b", "\\bcatch\\b", "\\bfinally\\b", "\\bsynchronized\\b", "\\bassert\\b", "Exact\\b",
         "\\bprotected\\b", "\\binstanceof\\b", "\\bdouble\\b", "\\bfloat\\b", "\\bHashMap\\b", "\\bSystem\\.(?!arraycopy)",
@@ -48,8 +54,11 @@ public final class LanguageTest {
                 for (Class<?> c : m.getParameterTypes()) {
                     types.add(c.getName());
                 }
-                open.add(m.getReturnType().getName() + " " + m.getName() + "(" + String.join(",", types) + ")"
-                        + (Modifier.isPublic(m.getModifiers()) ? "" : " not public"));
+                String told = m.getReturnType().getName() + " " + m.getName() + "(" + String.join(",", types) + ")";
+                for (Class<?> c : m.getExceptionTypes()) {
+                    told += " " + c.getSimpleName();
+                }
+                open.add(told + (Modifier.isPublic(m.getModifiers()) ? "" : " not public"));
             }
         }
         yes("the face's methods: " + open, open.equals(new TreeSet<>(Arrays.asList(FACE))));
